@@ -44,6 +44,10 @@ final class Check {
         due(what, want, answerOf(call));
     }
 
+    long asked() {
+        return asked;
+    }
+
     void end() {
         System.out.println(asked + " answers, " + wrong + " wrong");
         if (wrong != 0) {

@@ -2,7 +2,7 @@ import java.util.Random;
 
 /** Long random runs of calls, right and wrong ones, on an object and on the Model side by side. */
 public final class RandomRunTest {
-    private static final int RUNS = 60;
+    private static final int RUNS = 80;
     private static final int CALLS = 512;
 
     private static final Check check = new Check();
@@ -23,8 +23,10 @@ public final class RandomRunTest {
     }
 
     private void go(int run) {
-        for (int call = 0; call < CALLS; call++) {
-            step("run " + run + ", call " + call + ": ");
+        long first = check.asked();
+        // A step makes two calls at the most.
+        while (check.asked() - first < CALLS - 1) {
+            step("run " + run + ", call " + (check.asked() - first) + ": ");
         }
     }
 
