@@ -866,10 +866,15 @@ public final class TourChain {
             picked = roomFor(picked, graph.vertices);
             Arrays.fill(picked, 0, graph.vertices, 0);
             for (int i = 0; i < graph.cities; i++) {
-                int next = at((i + 1) % graph.cities);
-                if (at(i) >= graph.firstSelector() && next < graph.firstSelector()) {
-                    picked[graph.vertexAt[next / 6]] = 1;
+                if (at(i) >= graph.firstSelector()) {
+                    pickVertexOf(at((i + 1) % graph.cities));
                 }
+            }
+        }
+
+        private void pickVertexOf(int city) {
+            if (city < graph.firstSelector()) {
+                picked[graph.vertexAt[city / 6]] = 1;
             }
         }
     }

@@ -48,6 +48,7 @@ public final class PromiseTest {
         promise17Turn();
         promise18Cost();
         promise19Pull();
+        promise19PullSelectors();
         promise20Replay();
         check.end();
     }
@@ -632,6 +633,28 @@ public final class PromiseTest {
         check.due("pull() refused, truth(0)", 1, x.truth(0));
         check.due("pull() refused, count(7)", cities, x.count(7));
         check.due("pull() refused, replay()", 1, () -> x.replay() ? 1 : 0);
+    }
+
+    /** The choice must be found whichever selector stands before its vertex, and wherever the trip begins. */
+    private static void promise19PullSelectors() {
+        TourChain x = smallSolved();
+        // Literal 32, that the rule is the choice, is the 17th vertex of the cover.
+        int place = 802;
+        check.due("the selector before literal 32", 3592, x.city(place));
+        check.due("the first city of literal 32", 192, x.city(place + 1));
+        for (int selector : new int[] {3576, 3689}) {
+            x.solve();
+            x.put(selector == 3576 ? 0 : 3659, 3592);
+            x.put(place, selector);
+            check.due("pull(), selector " + selector + " there", 1, () -> x.pull() ? 1 : 0);
+            dueChoices(x, 0);
+            x.turn(place + 1, false);
+            check.due("pull(), with it at the end", 1, () -> x.pull() ? 1 : 0);
+            dueChoices(x, 0);
+            x.turn(0, true);
+            check.due("pull(), turned round", 1, () -> x.pull() ? 1 : 0);
+            dueChoices(x, 0);
+        }
     }
 
     private static void promise20Replay() {
