@@ -13,6 +13,7 @@ final class Check {
     private static final int MOST_LINES = 40;
     private int wrong = 0;
     private long asked = 0;
+    private String where = "";
 
     static long answerOf(Call call) {
         try {
@@ -26,12 +27,17 @@ final class Check {
         }
     }
 
+    /** What follows is a test of this sentence of the document. */
+    void sentence(String place, String words) {
+        where = "[" + place + ": " + words + "] ";
+    }
+
     void due(String what, long want, long got) {
         asked++;
         if (got != want) {
             wrong++;
             if (wrong <= MOST_LINES) {
-                System.out.println(what + " answered " + text(got) + ", due is " + text(want));
+                System.out.println(where + what + " answered " + text(got) + ", due is " + text(want));
             }
         }
     }

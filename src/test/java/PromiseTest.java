@@ -5,8 +5,9 @@ public final class PromiseTest {
     private static final int HIGH = Integer.MAX_VALUE;
 
     private static final Check check = new Check();
+    private static final SmallChain small = new SmallChain(check);
 
-    // Of the small machine (see small()), written out from the document:
+    // Of the small machine, written out from the document:
     // C 0 .. 7, H 8 .. 11, Q 12 .. 15, K 16 (the rule) and 17 (REST).
     private static final int[][] SMALL_CLAUSES = {
         {0, 2}, {1, 3}, {4, 6}, {5, 7}, {8, 10}, {9, 11}, {12, 14}, {13, 15},
@@ -21,8 +22,6 @@ public final class PromiseTest {
         {16, 1, 8}, {16, 3, 10}, {18, 5, 12}, {18, 7, 14},
     };
     private static final int[] SMALL_TRUE = {0, 2, 5, 6, 8, 10, 12, 15, 16};
-    private static final int SMALL_VARIABLES = 22;
-    private static final int SMALL_CITIES = 3690;
 
     public static void main(String[] args) {
         promise1NewObject();
@@ -53,56 +52,10 @@ public final class PromiseTest {
         check.end();
     }
 
-    /** Two states, two symbols, bound 1, and a rule that writes 1 and accepts at once. Not built. */
-    private static TourChain small() {
-        TourChain x = new TourChain();
-        x.rule(0, 0, 1, 1, 1);
-        return x;
-    }
-
-    private static TourChain smallSolved() {
-        TourChain x = small();
-        x.build();
-        x.solve();
-        return x;
-    }
-
-    private static void dueUnbuilt(String after, TourChain x) {
-        check.due(after + ", count(0)", NONE, x.count(0));
-        check.due(after + ", literal(0, 0)", NONE, x.literal(0, 0));
-        check.due(after + ", three(0, 0)", NONE, x.three(0, 0));
-        check.due(after + ", end(0, 0)", NONE, x.end(0, 0));
-        check.due(after + ", apart(0, 0)", NONE, x.apart(0, 0));
-        check.due(after + ", solve()", Check.STATE, () -> x.solve() ? 1 : 0);
-        dueNoRun(after, x);
-    }
-
-    private static void dueNoRun(String after, TourChain x) {
-        check.due(after + ", choice(0)", NONE, x.choice(0));
-        check.due(after + ", truth(0)", NONE, x.truth(0));
-        check.due(after + ", covers(0)", NONE, x.covers(0));
-        check.due(after + ", city(0)", NONE, x.city(0));
-        check.due(after + ", put(0, 0)", Check.STATE, () -> x.put(0, 0));
-        check.due(after + ", put(-1, -1)", Check.STATE, () -> x.put(-1, -1));
-        check.due(after + ", turn(0, false)", Check.STATE, () -> { x.turn(0, false); return 0; });
-        check.due(after + ", turn(-1, true)", Check.STATE, () -> { x.turn(-1, true); return 0; });
-        check.due(after + ", cost()", Check.STATE, () -> x.cost());
-        check.due(after + ", pull()", Check.STATE, () -> x.pull() ? 1 : 0);
-        check.due(after + ", replay()", Check.STATE, () -> x.replay() ? 1 : 0);
-    }
-
-    /** That a refused call has left the small machine's run and trip alone. */
-    private static void dueSmallSolved(String after, TourChain x) {
-        check.due(after + ", count(7)", SMALL_CITIES, x.count(7));
-        check.due(after + ", choice(0)", 0, x.choice(0));
-        check.due(after + ", city(0)", 3576, x.city(0));
-        check.due(after + ", cost()", SMALL_CITIES, () -> x.cost());
-    }
-
     private static void promise1NewObject() {
         TourChain x = new TourChain();
         check.due("NONE", -1, TourChain.NONE);
-        dueUnbuilt("new", x);
+        small.dueUnbuilt("new", x);
         check.due("new, a symbol 2", NONE, x.rule(0, 2, 0, 0, 0));
         check.due("new, a state 2", NONE, x.rule(0, 0, 2, 0, 0));
         check.due("new, a cell 2", false, x.input(2, 0));
@@ -119,17 +72,17 @@ public final class PromiseTest {
         for (int q = 2; q <= 3; q++) {
             for (int g = 2; g <= 3; g++) {
                 for (int t = 1; t <= 3; t++) {
-                    TourChain x = smallSolved();
+                    TourChain x = SmallChain.solved();
                     String call = "machine(" + q + ", " + g + ", " + t + ")";
                     check.due(call, true, x.machine(q, g, t));
-                    dueUnbuilt(call, x);
+                    small.dueUnbuilt(call, x);
                     x.build();
                     int rows = t + 1;
                     check.due(call + ", count(0)", rows * rows * g + rows * rows + rows * q + t, x.count(0));
                 }
             }
         }
-        TourChain x = small();
+        TourChain x = SmallChain.unbuilt();
         x.input(1, 1);
         x.machine(2, 2, 1);
         check.due("machine, build() without rules", 3085, x.build());
@@ -140,19 +93,19 @@ public final class PromiseTest {
     private static void promise2MachineRefused() {
         int[][] wrong = {{1, 2, 1}, {4, 2, 1}, {2, 1, 1}, {2, 4, 1}, {2, 2, 0}, {2, 2, 4}, {LOW, 2, 1}, {HIGH, 2, 1},
             {2, LOW, 1}, {2, HIGH, 1}, {2, 2, LOW}, {2, 2, HIGH}, {-1, -1, -1}};
-        TourChain x = smallSolved();
+        TourChain x = SmallChain.solved();
         for (int[] w : wrong) {
             String call = "machine(" + w[0] + ", " + w[1] + ", " + w[2] + ")";
             check.due(call, false, x.machine(w[0], w[1], w[2]));
-            dueSmallSolved(call, x);
+            small.dueSolved(call, x);
         }
         check.due("machine refused, the rule is there still", 1, x.rule(0, 0, 1, 1, 1));
     }
 
     private static void promise3Rule() {
-        TourChain x = smallSolved();
+        TourChain x = SmallChain.solved();
         check.due("rule, a second one", 1, x.rule(0, 1, 0, 0, 0));
-        dueUnbuilt("rule", x);
+        small.dueUnbuilt("rule", x);
         for (int k = 2; k < 8; k++) {
             check.due("rule, one more", k, x.rule(0, k % 2, k % 2, 1, k % 3));
         }
@@ -171,11 +124,11 @@ public final class PromiseTest {
         int[][] wrong = {{1, 0, 0, 0, 0}, {2, 0, 0, 0, 0}, {-1, 0, 0, 0, 0}, {0, -1, 0, 0, 0}, {0, 2, 0, 0, 0},
             {0, 0, -1, 0, 0}, {0, 0, 2, 0, 0}, {0, 0, 0, -1, 0}, {0, 0, 0, 2, 0}, {0, 0, 0, 0, -1}, {0, 0, 0, 0, 3},
             {LOW, 0, 0, 0, 0}, {0, HIGH, 0, 0, 0}, {0, 0, LOW, 0, 0}, {0, 0, 0, HIGH, 0}, {0, 0, 0, 0, LOW}};
-        TourChain x = smallSolved();
+        TourChain x = SmallChain.solved();
         for (int[] w : wrong) {
             String call = "rule(" + w[0] + ", " + w[1] + ", " + w[2] + ", " + w[3] + ", " + w[4] + ")";
             check.due(call, NONE, x.rule(w[0], w[1], w[2], w[3], w[4]));
-            dueSmallSolved(call, x);
+            small.dueSolved(call, x);
         }
         TourChain three = new TourChain();
         three.machine(3, 3, 1);
@@ -187,15 +140,15 @@ public final class PromiseTest {
     }
 
     private static void promise4Input() {
-        TourChain x = smallSolved();
+        TourChain x = SmallChain.solved();
         int[][] wrong = {{-1, 0}, {2, 0}, {0, -1}, {0, 2}, {LOW, 0}, {HIGH, 0}, {0, LOW}, {0, HIGH}};
         for (int[] w : wrong) {
             String call = "input(" + w[0] + ", " + w[1] + ")";
             check.due(call, false, x.input(w[0], w[1]));
-            dueSmallSolved(call, x);
+            small.dueSolved(call, x);
         }
         check.due("input(0, 0), as it was", true, x.input(0, 0));
-        dueUnbuilt("input(0, 0)", x);
+        small.dueUnbuilt("input(0, 0)", x);
         check.due("input(1, 1)", true, x.input(1, 1));
         x.build();
         check.due("input(1, 1), cell 0", 0, x.literal(16, 0));
@@ -207,12 +160,12 @@ public final class PromiseTest {
     }
 
     private static void promise5Build() {
-        TourChain x = small();
-        check.due("build()", SMALL_CITIES, x.build());
-        dueNoRun("build()", x);
+        TourChain x = SmallChain.unbuilt();
+        check.due("build()", SmallChain.CITIES, x.build());
+        small.dueNoRun("build()", x);
         x.solve();
-        check.due("build() once more", SMALL_CITIES, x.build());
-        dueNoRun("build() once more", x);
+        check.due("build() once more", SmallChain.CITIES, x.build());
+        small.dueNoRun("build() once more", x);
         check.due("build() once more, count(1)", 42, x.count(1));
         check.due("build() once more, solve()", 1, () -> x.solve() ? 1 : 0);
         x.machine(3, 3, 3);
@@ -225,10 +178,10 @@ public final class PromiseTest {
     }
 
     private static void promise6Count() {
-        TourChain x = small();
+        TourChain x = SmallChain.unbuilt();
         dueCounts(x, NONE, NONE, NONE, NONE, NONE, NONE, NONE, NONE);
         x.build();
-        dueCounts(x, 18, 42, 22, 46, 182, 298, 114, SMALL_CITIES);
+        dueCounts(x, 18, 42, 22, 46, 182, 298, 114, SmallChain.CITIES);
         for (int what : new int[] {-1, 8, 9, LOW, HIGH}) {
             check.due("count(" + what + ")", NONE, x.count(what));
         }
@@ -247,7 +200,7 @@ public final class PromiseTest {
     }
 
     private static void promise7Literal() {
-        TourChain x = small();
+        TourChain x = SmallChain.unbuilt();
         x.build();
         for (int clause = 0; clause < SMALL_CLAUSES.length; clause++) {
             int[] want = SMALL_CLAUSES[clause];
@@ -284,7 +237,7 @@ public final class PromiseTest {
     }
 
     private static void promise8Three() {
-        TourChain x = small();
+        TourChain x = SmallChain.unbuilt();
         x.build();
         dueThree(x, 0, 0, 2, 2);
         dueThree(x, 1, 1, 3, 3);
@@ -321,7 +274,7 @@ public final class PromiseTest {
     }
 
     private static void promise9End() {
-        TourChain x = small();
+        TourChain x = SmallChain.unbuilt();
         x.build();
         dueEdge(x, 0, 0, 1);
         dueEdge(x, 21, 42, 43);
@@ -345,7 +298,7 @@ public final class PromiseTest {
     }
 
     private static void promise10Apart() {
-        TourChain x = small();
+        TourChain x = SmallChain.unbuilt();
         x.build();
         for (int a = 0; a < 12; a++) {
             for (int b = 0; b < 12; b++) {
@@ -366,7 +319,7 @@ public final class PromiseTest {
         dueApart(x, 1463, 1470, 1);
         dueApart(x, 1475, 1482, 1);
         dueApart(x, 1487, 2058, 1);
-        for (int selector = 3576; selector < SMALL_CITIES; selector += 113) {
+        for (int selector = 3576; selector < SmallChain.CITIES; selector += 113) {
             dueApart(x, selector, 0, 1);
             dueApart(x, selector, 5, 2);
             dueApart(x, selector, 1, 2);
@@ -379,7 +332,7 @@ public final class PromiseTest {
         // The last edge of all is literal 14's last one too.
         dueApart(x, 3575, 3576, 1);
         dueApart(x, 3574, 3576, 2);
-        int[][] wrong = {{-1, 0}, {-1, -1}, {0, SMALL_CITIES}, {SMALL_CITIES, SMALL_CITIES}, {LOW, 0}, {HIGH, HIGH}};
+        int[][] wrong = {{-1, 0}, {-1, -1}, {0, SmallChain.CITIES}, {SmallChain.CITIES, SmallChain.CITIES}, {LOW, 0}, {HIGH, HIGH}};
         for (int[] w : wrong) {
             dueApart(x, w[0], w[1], NONE);
         }
@@ -391,19 +344,19 @@ public final class PromiseTest {
     }
 
     private static void promise11Solve() {
-        TourChain x = small();
+        TourChain x = SmallChain.unbuilt();
         check.due("solve(), not built", Check.STATE, () -> x.solve() ? 1 : 0);
         x.build();
         check.due("solve()", 1, () -> x.solve() ? 1 : 0);
-        dueSmallSolved("solve()", x);
+        small.dueSolved("solve()", x);
         x.put(0, 7);
         x.turn(9, true);
         check.due("solve() again", 1, () -> x.solve() ? 1 : 0);
-        dueSmallSolved("solve() again lays the trip anew", x);
+        small.dueSolved("solve() again lays the trip anew", x);
         x.input(0, 1);
         x.build();
         check.due("solve() without a run", 0, () -> x.solve() ? 1 : 0);
-        dueNoRun("solve() without a run", x);
+        small.dueNoRun("solve() without a run", x);
         // The head can't leave the cells, on either side.
         x.machine(2, 2, 1);
         x.rule(0, 0, 1, 0, 0);
@@ -460,11 +413,11 @@ public final class PromiseTest {
     }
 
     private static void promise13Truth() {
-        TourChain x = smallSolved();
-        for (int v = 0; v < SMALL_VARIABLES; v++) {
+        TourChain x = SmallChain.solved();
+        for (int v = 0; v < SmallChain.VARIABLES; v++) {
             check.due("truth(" + v + ")", isSmallTrue(v) ? 1 : 0, x.truth(v));
         }
-        for (int v : new int[] {-1, SMALL_VARIABLES, LOW, HIGH}) {
+        for (int v : new int[] {-1, SmallChain.VARIABLES, LOW, HIGH}) {
             check.due("truth(" + v + ")", NONE, x.truth(v));
         }
         // The rule that is used is the last of four: K is 16 .. 20, y of its clause 21 and 22.
@@ -492,8 +445,8 @@ public final class PromiseTest {
     }
 
     private static void promise14Covers() {
-        TourChain x = smallSolved();
-        for (int v = 0; v < SMALL_VARIABLES; v++) {
+        TourChain x = SmallChain.solved();
+        for (int v = 0; v < SmallChain.VARIABLES; v++) {
             check.due("covers(" + 2 * v + ")", isSmallTrue(v) ? 1 : 0, x.covers(2 * v));
             check.due("covers(" + (2 * v + 1) + ")", isSmallTrue(v) ? 0 : 1, x.covers(2 * v + 1));
         }
@@ -516,7 +469,7 @@ public final class PromiseTest {
     }
 
     private static void promise15City() {
-        TourChain x = smallSolved();
+        TourChain x = SmallChain.solved();
         int[] begin = {3576, 0, 1, 2, 6, 7, 8, 9, 10, 11, 3, 4, 5,
             306, 307, 308, 300, 301, 302, 303, 304, 305, 309, 310, 311,
             1458, 1459, 1460, 1452, 1453, 1454, 1455, 1456, 1457, 1461, 1462, 1463,
@@ -530,16 +483,16 @@ public final class PromiseTest {
             3534, 3535, 3536, 3537, 3538, 3539, 3564, 3565, 3566, 3570, 3571, 3572, 3573, 3574, 3575,
             3567, 3568, 3569};
         for (int i = 0; i < end.length; i++) {
-            int place = SMALL_CITIES - end.length + i;
+            int place = SmallChain.CITIES - end.length + i;
             check.due("city(" + place + ")", end[i], x.city(place));
         }
-        for (int i : new int[] {-1, SMALL_CITIES, LOW, HIGH}) {
+        for (int i : new int[] {-1, SmallChain.CITIES, LOW, HIGH}) {
             check.due("city(" + i + ")", NONE, x.city(i));
         }
     }
 
     private static void promise16Put() {
-        TourChain x = smallSolved();
+        TourChain x = SmallChain.solved();
         check.due("put(1, 77)", 0, () -> x.put(1, 77));
         check.due("put(1, 77), city(1)", 77, x.city(1));
         check.due("put(1, 77), city(2)", 1, x.city(2));
@@ -547,7 +500,7 @@ public final class PromiseTest {
         check.due("put(1, 3689) again", 3689, () -> x.put(1, 3689));
         check.due("put(3689, 0)", 3569, () -> x.put(3689, 0));
         check.due("put, the run stays", 0, x.choice(0));
-        int[][] wrong = {{-1, 0}, {SMALL_CITIES, 0}, {0, -1}, {0, SMALL_CITIES}, {LOW, 0}, {HIGH, 0}, {0, LOW}, {0, HIGH}};
+        int[][] wrong = {{-1, 0}, {SmallChain.CITIES, 0}, {0, -1}, {0, SmallChain.CITIES}, {LOW, 0}, {HIGH, 0}, {0, LOW}, {0, HIGH}};
         for (int[] w : wrong) {
             check.due("put(" + w[0] + ", " + w[1] + ")", Check.ARGUMENT, () -> x.put(w[0], w[1]));
         }
@@ -560,14 +513,14 @@ public final class PromiseTest {
     }
 
     private static void promise17Turn() {
-        TourChain x = smallSolved();
+        TourChain x = SmallChain.solved();
         x.turn(0, false);
-        dueSmallSolved("turn(0, false)", x);
+        small.dueSolved("turn(0, false)", x);
         x.turn(1, false);
         check.due("turn(1, false), city(0)", 0, x.city(0));
         check.due("turn(1, false), city(3689)", 3576, x.city(3689));
         x.turn(3689, false);
-        dueSmallSolved("turn(3689, false) behind it", x);
+        small.dueSolved("turn(3689, false) behind it", x);
         x.turn(0, true);
         check.due("turn(0, true), city(0)", 3569, x.city(0));
         check.due("turn(0, true), city(3689)", 3576, x.city(3689));
@@ -578,33 +531,33 @@ public final class PromiseTest {
         x.turn(2, true);
         check.due("turn(2, true) behind it, city(0)", 0, x.city(0));
         check.due("turn(2, true) behind it, city(3689)", 3576, x.city(3689));
-        for (int n : new int[] {-1, SMALL_CITIES, LOW, HIGH}) {
+        for (int n : new int[] {-1, SmallChain.CITIES, LOW, HIGH}) {
             check.due("turn(" + n + ", true)", Check.ARGUMENT, () -> { x.turn(n, true); return 0; });
         }
         check.due("turn refused, city(0)", 0, x.city(0));
     }
 
     private static void promise18Cost() {
-        TourChain x = smallSolved();
-        check.due("cost()", SMALL_CITIES, () -> x.cost());
+        TourChain x = SmallChain.solved();
+        check.due("cost()", SmallChain.CITIES, () -> x.cost());
         x.turn(100, true);
-        check.due("cost(), turned", SMALL_CITIES, () -> x.cost());
+        check.due("cost(), turned", SmallChain.CITIES, () -> x.cost());
         x.solve();
         x.put(1, 1);
         check.due("cost(), a city twice", NONE, () -> x.cost());
         x.put(2, 0);
         // 3576 1 0 2: selector and 1, and 0 and 2, have no road.
-        check.due("cost(), two swapped", SMALL_CITIES + 2, () -> x.cost());
+        check.due("cost(), two swapped", SmallChain.CITIES + 2, () -> x.cost());
         x.solve();
         x.put(0, 3569);
         x.put(3689, 3576);
         // .. 3568 3576 3569 0 ..: the way back counts, and so do the roads of 3569 that are no more.
-        check.due("cost(), over the end", SMALL_CITIES + 2, () -> x.cost());
+        check.due("cost(), over the end", SmallChain.CITIES + 2, () -> x.cost());
         x.solve();
         x.put(0, 3577);
         check.due("cost(), a selector missing", NONE, () -> x.cost());
         x.put(61, 3576);
-        check.due("cost(), two selectors swapped", SMALL_CITIES, () -> x.cost());
+        check.due("cost(), two selectors swapped", SmallChain.CITIES, () -> x.cost());
     }
 
     private static void promise19Pull() {
@@ -637,7 +590,7 @@ public final class PromiseTest {
 
     /** The choice must be found whichever selector stands before its vertex, and wherever the trip begins. */
     private static void promise19PullSelectors() {
-        TourChain x = smallSolved();
+        TourChain x = SmallChain.solved();
         // Literal 32, that the rule is the choice, is the 17th vertex of the cover.
         int place = 802;
         check.due("the selector before literal 32", 3592, x.city(place));
@@ -658,7 +611,7 @@ public final class PromiseTest {
     }
 
     private static void promise20Replay() {
-        TourChain x = small();
+        TourChain x = SmallChain.unbuilt();
         check.due("replay(), not built", Check.STATE, () -> x.replay() ? 1 : 0);
         x.build();
         check.due("replay(), not solved", Check.STATE, () -> x.replay() ? 1 : 0);
@@ -666,7 +619,7 @@ public final class PromiseTest {
         check.due("replay()", 1, () -> x.replay() ? 1 : 0);
         x.pull();
         check.due("replay() behind pull()", 1, () -> x.replay() ? 1 : 0);
-        dueSmallSolved("replay()", x);
+        small.dueSolved("replay()", x);
         check.due("replay(), truth(5)", 1, x.truth(5));
     }
 }
