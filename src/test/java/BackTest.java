@@ -19,6 +19,7 @@ public final class BackTest {
     }
 
     public static void main(String[] args) {
+        check.sentence("Terms", "the choice of each step is the lowest k whose K is true");
         int[] rule = {0, 0, 1, 1, 1};
         int[] another = {0, 0, 1, 0, 2};
         int[] atOne = {0, 1, 1, 0, 2};

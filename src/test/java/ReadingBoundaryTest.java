@@ -240,7 +240,7 @@ public final class ReadingBoundaryTest {
         check.due("choice(0)", 7, x.choice(0));
         check.due("choice(2)", 8, x.choice(2));
         check.due("choice(3)", NONE, x.choice(3));
-        // The last ones of C, H, Q and K: the head has stayed on cell 0; y 160 is of a rest on cell 3, where it was not.
+        // The last ones of C, H, Q and K: the head has stayed on cell 0; y 160 is of a rest on cell 3.
         check.due("truth(47)", 1, x.truth(47));
         check.due("truth(63)", 0, x.truth(63));
         check.due("truth(75)", 1, x.truth(75));

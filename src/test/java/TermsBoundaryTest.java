@@ -253,7 +253,7 @@ public final class TermsBoundaryTest {
         check.sentence("Terms", "At last for each p and a: H(i, p), not C(i, p, a), C(i + 1, p, a).");
         TourChain x = machine(2, 2, 2);
         x.build();
-        // C 0 .. 17, H 18 .. 26, Q 27 .. 32, K 33 and 34: 18 + 12 + 6 + 6 clauses come before the steps', 1 + 11 + 6 each.
+        // C 0 .. 17, H 18 .. 26, Q 27 .. 32, K 33 and 34: 18 + 12 + 6 + 6 clauses, then 1 + 11 + 6 for each step.
         check.due("count(1)", 42 + 2 * 18, x.count(1));
         dueClause(x, 42, 66);
         dueClause(x, 43, 67, 56);
@@ -269,7 +269,8 @@ public final class TermsBoundaryTest {
     }
 
     private static void threesOfEachLength() {
-        check.sentence("Terms", "of one literal: it three times; of two: the second one twice; of three: itself; of n more");
+        check.sentence("Terms",
+            "of one literal: it three times; of two: the second one twice; of three: itself; of n more");
         // The clause of K, of r + 1 literals, is 21; K is 16 and more, so the new variables begin with 17 + r.
         dueThreesOfChoices(0, new int[][] {{32, 32, 32}, {33, 26, 26}});
         dueThreesOfChoices(1, new int[][] {{32, 34, 34}, {33, 24, 24}});

@@ -4,12 +4,13 @@ public final class TripBoundaryTest {
     private static final int LOW = Integer.MIN_VALUE;
     private static final int HIGH = Integer.MAX_VALUE;
 
-    // Of the small machine's trip: its cities, its last place, and the selector before literal 32 (that the rule is
-    // the choice) and the next one.
+    // Of the small machine's trip: how many cities it has, its last place, where the selector before literal 32 (that
+    // the rule is the choice), the next one and the last one stand.
     private static final int N = SmallChain.CITIES;
     private static final int LAST = N - 1;
     private static final int CHOICE_PLACE = 802;
     private static final int NEXT_PLACE = 827;
+    private static final int LAST_SELECTOR_PLACE = 3659;
 
     private static final Check check = new Check();
     private static final SmallChain small = new SmallChain(check);
@@ -40,6 +41,7 @@ public final class TripBoundaryTest {
         costPutRight();
         costWithoutATrip();
         pullOfAGoodTrip();
+        pullByTheFirstAndTheLastSelector();
         pullOverTheEnd();
         pullChangesTheRunAlone();
         pullOfATripOneTooLong();
@@ -212,7 +214,7 @@ public final class TripBoundaryTest {
     }
 
     private static void putRefusedChangesNothing() {
-        check.sentence("Promise 16, nothing is changed", "IllegalArgumentException, when there is no such place or city");
+        check.sentence("Promise 16, nothing is changed", "when there is no such place or city");
         for (int[] c : new int[][] {{-1, 0}, {N, 0}, {0, -1}, {0, N}, {LAST, N}, {LAST, -1}}) {
             TourChain x = SmallChain.solved();
             long[] before = Answers.of(x);
@@ -415,15 +417,34 @@ public final class TripBoundaryTest {
 
     private static void pullOfAGoodTrip() {
         check.sentence("Promise 19", "BACK from the trip: true, and its choices are the run's");
-        TourChain x = SmallChain.solved();
-        for (int n : new int[] {0, 1, LAST, CHOICE_PLACE, CHOICE_PLACE + 1}) {
-            x.turn(n, false);
-            check.due("turn(" + n + ", false), pull()", true, x.pull());
-            dueChoices(x, 0);
-            x.turn(n, true);
-            check.due("turn(" + n + ", true), pull()", true, x.pull());
-            dueChoices(x, 0);
+        for (int n : new int[] {0, 1, LAST, CHOICE_PLACE, CHOICE_PLACE + 1, NEXT_PLACE, NEXT_PLACE + 1}) {
+            for (boolean round : new boolean[] {false, true}) {
+                TourChain x = SmallChain.solved();
+                x.turn(n, round);
+                check.due("turn(" + n + ", " + round + "), pull()", true, x.pull());
+                dueChoices(x, 0);
+                x.turn(0, true);
+                check.due("turn(" + n + ", " + round + "), turn(0, true), pull()", true, x.pull());
+                dueChoices(x, 0);
+            }
         }
+    }
+
+    private static void pullByTheFirstAndTheLastSelector() {
+        check.sentence("Terms", "the cover has the vertex whose side stands behind each selector in the trip");
+        // Where the first, the second and the last selector stand.
+        for (int place : new int[] {0, 61, LAST_SELECTOR_PLACE}) {
+            for (boolean round : new boolean[] {false, true}) {
+                TourChain x = SmallChain.solved();
+                swap(x, place, round ? NEXT_PLACE : CHOICE_PLACE);
+                x.turn(0, round);
+                check.due("the selector of place " + place + " at literal 32, pull()", true, x.pull());
+                dueChoices(x, 0);
+            }
+        }
+        TourChain x = SmallChain.solved();
+        check.due("the first selector", 3576, x.city(0));
+        check.due("the last selector", 3689, x.city(LAST_SELECTOR_PLACE));
     }
 
     private static void pullOverTheEnd() {
@@ -504,13 +525,13 @@ public final class TripBoundaryTest {
         check.sentence("Promise 19", "false, and nothing is changed, when the trip is not good");
         for (int kind = 0; kind < 3; kind++) {
             TourChain x = SmallChain.solved();
-            x.turn(kind, kind == 2);
+            // Without a selector before literal 32, BACK would find another choice.
             if (kind == 0) {
                 makeOneTooLong(x);
             } else if (kind == 1) {
-                x.put(LAST, 0);
+                x.put(CHOICE_PLACE, 0);
             } else {
-                swap(x, 0, CHOICE_PLACE);
+                swap(x, CHOICE_PLACE, 5);
             }
             long[] before = Answers.of(x);
             check.due("pull()", false, x.pull());
