@@ -452,6 +452,15 @@ final class Model {
         }
     }
 
+    boolean haveEachThreeTrue(boolean[] truths) {
+        for (int[] three : threes) {
+            if (!isTrue(truths, three[0]) && !isTrue(truths, three[1]) && !isTrue(truths, three[2])) {
+                return false;
+            }
+        }
+        return true;
+    }
+
     Set<Integer> coverOf(boolean[] truths) {
         Set<Integer> cover = new HashSet<>();
         int v = variables.size();
